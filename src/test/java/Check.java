@@ -1,0 +1,78 @@
+import java.util.NoSuchElementException;
+
+/** What the tests share: answers held against what is due, and texts put on the tape. */
+final class Check {
+  private int asked = 0;
+  private int wrong = 0;
+
+  void due(String call, long got, long want) {
+    asked++;
+    if (got != want) {
+      wrong++;
+      System.out.println(call + " answered " + got + ", due is " + want);
+    }
+  }
+
+  void due(String call, boolean got, boolean want) {
+    due(call, got ? 1 : 0, want ? 1 : 0);
+  }
+
+  void lookThrows(DayDiary x, int diary, int line, int what) {
+    boolean thrown = false;
+    try {
+      x.look(diary, line, what);
+    } catch (NoSuchElementException e) {
+      thrown = true;
+    }
+    due("look(" + diary + ", " + line + ", " + what + ") throws", thrown, true);
+  }
+
+  void dayThrows(DayDiary x, int diary, int what) {
+    boolean thrown = false;
+    try {
+      x.day(diary, what);
+    } catch (NoSuchElementException e) {
+      thrown = true;
+    }
+    due("day(" + diary + ", " + what + ") throws", thrown, true);
+  }
+
+  /** Feeds a text, 24 signs a call; sign 0 fills up the last call and is left out by it. */
+  static int feed(DayDiary x, String signs) {
+    int size = x.count(3);
+    for (int i = 0; i < signs.length(); i += 24) {
+      size = x.feed(eight(signs, i), eight(signs, i + 8), eight(signs, i + 16));
+    }
+    return size;
+  }
+
+  static long eight(String signs, int from) {
+    long bytes = 0;
+    for (int i = from; i < from + 8; i++) {
+      bytes = bytes << 8 | (i < signs.length() ? signs.charAt(i) & 255 : 0);
+    }
+    return bytes;
+  }
+
+  static int text(DayDiary x, String signs) {
+    feed(x, signs);
+    return x.text();
+  }
+
+  /** The text must be without fault. */
+  void good(DayDiary x, String signs) {
+    due("text() of \"" + signs + "\"", text(x, signs), 0);
+  }
+
+  /** A new object's answer to the text, which must be a fault at the place of the kind. */
+  void fault(String signs, int place, int kind) {
+    due("text() of \"" + signs + "\"", text(new DayDiary(), signs), kind + 16L * place);
+  }
+
+  void end(String name) {
+    System.out.println(name + ": " + asked + " answers, " + wrong + " wrong");
+    if (wrong != 0 || asked == 0) {
+      System.exit(1);
+    }
+  }
+}
