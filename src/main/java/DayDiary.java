@@ -433,7 +433,7 @@ public final class DayDiary {
 
         boolean isUnder(int word, int other) {
             int at = word;
-            for (int i = 0; i < MOST_WORDS && at > other && isWithin(at, 1, MOST_WORDS); i++) {
+            for (int i = 0; i < MOST_WORDS && at > other && at > 0 && at <= MOST_WORDS; i++) {
                 at = above[at];
             }
             return at == other;

@@ -1,4 +1,5 @@
 import java.util.NoSuchElementException;
+import java.util.function.IntSupplier;
 
 /** What the tests share: answers held against what is due, and texts put on the tape. */
 final class Check {
@@ -17,24 +18,23 @@ final class Check {
     due(call, got ? 1 : 0, want ? 1 : 0);
   }
 
-  void lookThrows(DayDiary x, int diary, int line, int what) {
-    boolean thrown = false;
+  /** The answer, or null where the call throws a NoSuchElementException. */
+  static Integer answer(IntSupplier call) {
     try {
-      x.look(diary, line, what);
+      return call.getAsInt();
     } catch (NoSuchElementException e) {
-      thrown = true;
+      return null;
     }
-    due("look(" + diary + ", " + line + ", " + what + ") throws", thrown, true);
+  }
+
+  void lookThrows(DayDiary x, int diary, int line, int what) {
+    due("look(" + diary + ", " + line + ", " + what + ") throws",
+        answer(() -> x.look(diary, line, what)) == null, true);
   }
 
   void dayThrows(DayDiary x, int diary, int what) {
-    boolean thrown = false;
-    try {
-      x.day(diary, what);
-    } catch (NoSuchElementException e) {
-      thrown = true;
-    }
-    due("day(" + diary + ", " + what + ") throws", thrown, true);
+    due("day(" + diary + ", " + what + ") throws",
+        answer(() -> x.day(diary, what)) == null, true);
   }
 
   /** Feeds a text, 24 signs a call; sign 0 fills up the last call and is left out by it. */

@@ -73,6 +73,8 @@ public final class CodesTest {
     CHECK.due("the last line has none", x.code(0, 2), 3);
     CHECK.good(x, "code 1 when second 200; code 2 when second 1;");
     CHECK.due("no second word is under none", x.code(0, 0), -1);
+    CHECK.good(x, "code 1 when next 1; code 2 when next 200; code 3 when 1;");
+    CHECK.due("no next word is under none", x.code(0, 2), 3);
   }
 
   private static void promise8SumsAndTests() {
@@ -145,8 +147,9 @@ public final class CodesTest {
     DayDiary x = threeLines();
     CHECK.good(x, "code 1 when next 5; code 2 when word 5; code 3 when ahead = 1;");
     CHECK.due("at first", x.code(0, 1), -1);
-    x.line(0, 60, 60, 50, 0, 0, 0);
     x.below(50, 5);
+    CHECK.due("a word was put below", x.code(0, 1), -1);
+    x.line(0, 60, 60, 50, 0, 0, 0);
     CHECK.due("a line came behind", x.code(0, 1), 1);
     CHECK.due("it", x.code(0, 2), 2);
     CHECK.due("the last", x.code(0, 3), -1);

@@ -1,4 +1,3 @@
-import java.util.NoSuchElementException;
 import java.util.Random;
 
 /**
@@ -124,7 +123,12 @@ public final class ModelTest {
         int k = any(pick(3, 25));
         CHECK.due(name + "code(" + d + ", " + k + ")", x.code(d, k), model.code(d, k));
       }
-      case 4 -> look(name, d, any(pick(3, 25)), any(6));
+      case 4 -> {
+        int k = any(pick(3, 25));
+        int what = any(6);
+        both(name + "look(" + d + ", " + k + ", " + what + ")",
+            Check.answer(() -> x.look(d, k, what)), Check.answer(() -> model.look(d, k, what)));
+      }
       case 5, 6 -> {
         int t = any(144);
         CHECK.due(name + "ten(" + d + ", " + t + ")", x.ten(d, t), model.ten(d, t));
@@ -157,46 +161,18 @@ public final class ModelTest {
         CHECK.due(name + "quarrels", x.quarrels(house, day), model.quarrels(house, day));
       }
       default -> {
-        dayOf(name, d, any(8));
+        int of = any(8);
+        both(name + "day(" + d + ", " + of + ")",
+            Check.answer(() -> x.day(d, of)), Check.answer(() -> model.day(d, of)));
         int what = any(6);
         CHECK.due(name + "count(" + what + ")", x.count(what), model.count(what));
       }
     }
   }
 
-  private void look(String name, int d, int k, int what) {
-    Integer got = null;
-    Integer want = null;
-    try {
-      got = x.look(d, k, what);
-    } catch (NoSuchElementException e) {
-      got = null;
-    }
-    try {
-      want = model.look(d, k, what);
-    } catch (NoSuchElementException e) {
-      want = null;
-    }
-    CHECK.due(name + "look throws", got == null, want == null);
-    CHECK.due(name + "look", got == null ? 0 : got, want == null ? 0 : want);
-  }
-
-  private void dayOf(String name, int d, int what) {
-    Integer got = null;
-    Integer want = null;
-    try {
-      got = x.day(d, what);
-    } catch (NoSuchElementException e) {
-      got = null;
-    }
-    try {
-      want = model.day(d, what);
-    } catch (NoSuchElementException e) {
-      want = null;
-    }
-    CHECK.due(name + "day throws", got == null, want == null);
-    CHECK.due(name + "day(" + d + ", " + what + ")", got == null ? 0 : got,
-        want == null ? 0 : want);
+  private void both(String call, Integer got, Integer want) {
+    CHECK.due(call + " throws", got == null, want == null);
+    CHECK.due(call, got == null ? 0 : got, want == null ? 0 : want);
   }
 
   private String rules() {

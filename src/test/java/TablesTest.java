@@ -56,6 +56,9 @@ public final class TablesTest {
         + "code 4 when ahead = 2 and word 2; code 5 when ahead = 3;");
     CHECK.due("first deeds of code 2", x.cell(2, 0, false), 4);
     CHECK.due("no word is second then", x.cell(2, 1, false), 0);
+    CHECK.good(x, "code 6 when second 1; code 7 when 1;");
+    CHECK.due("none at all", x.cell(6, 1, false), 0);
+    x.choose(0);
     CHECK.due("all else as it is", x.cell(3, 1, false), 4);
     CHECK.due("the line ahead keeps its code", x.cell(4, 1, false), 8);
     CHECK.due("and is not coded as its second", x.cell(5, 1, false), 0);
@@ -109,6 +112,9 @@ public final class TablesTest {
       CHECK.due("lead(1, " + sort + ", MIN)", x.lead(1, sort, Integer.MIN_VALUE), -1);
     }
     CHECK.due("lead(2, 1, 0)", x.lead(2, 1, 0), 3);
+    CHECK.good(x, "code 0 when word 3; code 49 when word 2;");
+    CHECK.due("lead(0, 0, 0)", x.lead(0, 0, 0), 100);
+    CHECK.due("lead(49, 2, 1)", x.lead(49, 2, 1), 3);
     CHECK.due("lead(1, 3, 0)", x.lead(1, 3, 0), -1);
     x.choose(-1);
     CHECK.due("no text", x.lead(1, 0, 0), -1);
@@ -122,6 +128,8 @@ public final class TablesTest {
     CHECK.due("next(0, 0)", x.next(0, 0), 0);
     CHECK.good(x, "code 1 when word 1; code 2 when word 2; mend 9;");
     CHECK.due("one is too long", x.next(1, 1), 1);
+    x.line(0, 17, 18, 1, 0, 0, 0);
+    CHECK.due("a gap of one ten", x.next(1, 1), 2);
     CHECK.good(x, "code 1 when word 1; code 2 when word 2;");
     CHECK.due("none is mended", x.next(1, 1), 0);
     CHECK.good(x, "code 1 when 1;");
@@ -156,6 +164,9 @@ public final class TablesTest {
     CHECK.due("of p 7, who says so of q 1; q 1 not from 5 to 12", x.quarrels(3, 2), 15);
     x.line(0, 20, 20, 1, 0, 0, 0b10000000);
     CHECK.due("of p 0 and q 7", x.quarrels(3, 2), 16);
+    x.line(1, 40, 49, 1, 0, 0, 0b10000001);
+    x.line(0, 45, 46, 1, 0, 0, 0);
+    CHECK.due("of p 1 and q 0, the first diary", x.quarrels(3, 2), 18);
     CHECK.due("another day", x.quarrels(3, 3), 0);
     CHECK.due("another house", x.quarrels(4, 2), 0);
   }

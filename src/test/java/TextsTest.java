@@ -112,6 +112,20 @@ public final class TextsTest {
     CHECK.fault("code 1 when pl ace;", 12, 1);
     CHECK.fault("code 1 when plac;", 12, 1);
     CHECK.fault("code 1 when places;", 12, 1);
+    for (String name : new String[] {"place", "with", "from", "long", "ahead", "age", "day"}) {
+      CHECK.good(new DayDiary(), "code 1 when " + name + ";");
+      for (int i = 0; i < name.length(); i++) {
+        String other = name.substring(0, i) + "z" + name.substring(i + 1);
+        CHECK.fault("code 1 when " + other + ";", 12, 1);
+      }
+    }
+    CHECK.fault("node 1 when 1;", 0, 1);
+    CHECK.fault("code 1 then 1;", 7, 1);
+    CHECK.fault("bend 1;", 0, 1);
+    CHECK.fault("code 1 when ford 1;", 12, 1);
+    CHECK.fault("code 1 when beckon 1;", 12, 1);
+    CHECK.fault("code 1 when text 1;", 12, 1);
+    CHECK.fault("code 1 when 1 end 1;", 14, 1);
     CHECK.fault("codewhen", 0, 1);
     CHECK.fault("code 1 when word\n2 3;", 19, 1);
   }

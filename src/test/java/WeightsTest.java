@@ -27,6 +27,16 @@ public final class WeightsTest {
     CHECK.due("known(5, 1)", x.known(5, 1), false);
     CHECK.due("known(MIN, 1)", x.known(Integer.MIN_VALUE, 1), false);
     CHECK.due("known(0, MAX)", x.known(0, Integer.MAX_VALUE), false);
+    for (int age = 0; age < 3; age++) {
+      DayDiary y = new DayDiary();
+      y.diary(0, 0, 0, age);
+      CHECK.due("counts of 1 at first", y.rounds(0), 999);
+      CHECK.due("workdays and age " + age, y.rounds(1), 0);
+      DayDiary z = new DayDiary();
+      z.diary(0, 0, 6, age);
+      CHECK.due("other days and age " + age, z.rounds(1), 0);
+      CHECK.due("its weight", z.weight(0), 1000);
+    }
     x.diary(0, 0, 4, 0);
     x.known(2, 7);
     CHECK.due("a refused count leaves the one before", x.rounds(0), 999000);
