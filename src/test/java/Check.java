@@ -1,21 +1,49 @@
 import java.util.NoSuchElementException;
+import java.util.function.IntPredicate;
 import java.util.function.IntSupplier;
 
 /** What the tests share: answers held against what is due, and texts put on the tape. */
 final class Check {
   private int asked = 0;
   private int wrong = 0;
+  private String about = "";
+
+  /**
+   * Names the sentence whose test begins here. A sentence of "Terms" is named with the promise that
+   * it is seen by; the document must have its very words, lest a test be about none of them.
+   */
+  void sentence(int promise, String words) {
+    about = "promise " + promise + ", \"" + words + "\": ";
+    due("these words stand in the document", Document.says(promise, words), true);
+  }
 
   void due(String call, long got, long want) {
     asked++;
     if (got != want) {
       wrong++;
-      System.out.println(call + " answered " + got + ", due is " + want);
+      System.out.println(about + call + " answered " + got + ", due is " + want);
     }
   }
 
   void due(String call, boolean got, boolean want) {
     due(call, got ? 1 : 0, want ? 1 : 0);
+  }
+
+  /** Every number from least to most is taken, and none beyond, near, far or by a wrap-around. */
+  void edges(String call, int least, int most, IntPredicate taken) {
+    int step = Math.max(1, (most - least) / 256);
+    for (int n = least; n <= most; n += step) {
+      due(call + " takes " + n, taken.test(n), true);
+    }
+    due(call + " takes " + most, taken.test(most), true);
+    int[] beyond = {least - 1, least - 2, most + 1, most + 2, -most, least + 256, most + 256,
+        least - 256, least + 65536, most + 65536, least - 65536, least + Integer.MIN_VALUE,
+        most + Integer.MIN_VALUE, Integer.MIN_VALUE, Integer.MAX_VALUE};
+    for (int n : beyond) {
+      if (n < least || n > most) {
+        due(call + " takes " + n, taken.test(n), false);
+      }
+    }
   }
 
   /** The answer, or null where the call throws a NoSuchElementException. */
