@@ -9,6 +9,7 @@ public final class EdgesOfCodesTest {
 
   public static void main(String[] args) {
     promise8NoSuchLine();
+    promise8NoneForALineThatIsThere();
     promise8TheFirstRule();
     promise8WithoutOne();
     promise8WordUnder();
@@ -31,6 +32,7 @@ public final class EdgesOfCodesTest {
     promise10BetweenTwoLines();
     promise10OfOneCode();
     promise10TensAtMost();
+    promise10CountAsOfThatCode();
     promise10HundredAndCode();
     CHECK.end("EdgesOfCodesTest");
   }
@@ -72,6 +74,20 @@ public final class EdgesOfCodesTest {
           y -> y.code(n[0], n[1]), -2);
     }
     TWINS.refused("a code that is there", Twins::madeWithTape, y -> y.code(0, 2), 49);
+  }
+
+  private static void promise8NoneForALineThatIsThere() {
+    CHECK.sentence(8, "-1: none");
+    DayDiary x = oneDiary();
+    CHECK.due("no line, no text", x.code(0, 0), -2);
+    x.line(0, 143, 143, 1, 0, 0, 0);
+    CHECK.due("a line, no text", x.code(0, 0), -1);
+    CHECK.good(x, "code 0 when word 2;");
+    CHECK.due("a line, no rule for it", x.code(0, 0), -1);
+    CHECK.due("no line", x.code(0, 1), -2);
+    x.line(0, 0, 0, 2, 0, 0, 0);
+    CHECK.due("one with a rule came ahead", x.code(0, 0), 0);
+    CHECK.due("the other", x.code(0, 1), -1);
   }
 
   private static void promise8TheFirstRule() {
@@ -513,6 +529,22 @@ public final class EdgesOfCodesTest {
     x.line(0, 5, 5, 1, 0, 0, 0);
     dueTens(x, 4, 4, 105);
     dueTens(x, 6, 6, 105);
+  }
+
+  private static void promise10CountAsOfThatCode() {
+    CHECK.sentence(10, "its TENS count as of that CODE. The others stay GAPS.");
+    DayDiary x = gapOfOne();
+    x.line(0, 15, 15, 1, 0, 0, 0);
+    CHECK.good(x, "code 49 when 1; mend 1;");
+    dueTens(x, 11, 11, 149);
+    dueTens(x, 13, 14, -2);
+    CHECK.due("as of 49", x.cell(49, 3, false), 1);
+    CHECK.due("those of lines are others", x.cell(49, 0, false), 3);
+    CHECK.due("day(0, 2)", x.day(0, 2), 1);
+    CHECK.due("next across the one, not the other", x.next(49, 49), 1);
+    CHECK.good(x, "code 49 when 1; mend 2;");
+    dueTens(x, 13, 14, 149);
+    CHECK.due("as of 49", x.cell(49, 3, false), 3);
   }
 
   private static void promise10HundredAndCode() {

@@ -12,6 +12,7 @@ public final class EdgesOfDiariesTest {
   public static void main(String[] args) {
     promise3Numbers();
     promise3NoTwoOfOne();
+    promise3ItsNumber();
     promise3FortyAtMost();
     promise3RefusedChangesNothing();
     promise4TensOfADay();
@@ -23,10 +24,12 @@ public final class EdgesOfDiariesTest {
     promise4OwnPerson();
     promise4NoTenInCommon();
     promise4NumberedByTens();
+    promise4HowManyTheDiaryHas();
     promise4TwentyFourAtMost();
     promise4NoSuchDiary();
     promise4RefusedChangesNothing();
     promise9What();
+    promise9ByTens();
     promise9NoneSuch();
     promise18What();
     promise18Lines();
@@ -102,6 +105,21 @@ public final class EdgesOfDiariesTest {
     CHECK.due("diary(0, 1, 6, 0)", x.diary(0, 1, 6, 0), 7);
     CHECK.due("diary(1, 1, 0, 0)", x.diary(1, 1, 0, 0), 8);
     CHECK.due("the last but one again", x.diary(0, 1, 6, 2), -1);
+  }
+
+  private static void promise3ItsNumber() {
+    CHECK.sentence(3, "A DIARY more: its number");
+    DayDiary x = new DayDiary();
+    CHECK.due("none is there, and one is refused", x.diary(0, 0, 0, 3), -1);
+    CHECK.due("the first", x.diary(9, 7, 6, 2), 0);
+    CHECK.due("refused", x.diary(9, 7, 6, 2), -1);
+    CHECK.due("the second", x.diary(0, 0, 0, 0), 1);
+    int[][] due = {{9, 7, 6, 2}, {0, 0, 0, 0}};
+    for (int d = 0; d < 2; d++) {
+      for (int what = 4; what < 8; what++) {
+        CHECK.due("day(" + d + ", " + what + ")", x.day(d, what), due[d][what - 4]);
+      }
+    }
   }
 
   private static void fortyDiaries(DayDiary x) {
@@ -261,6 +279,19 @@ public final class EdgesOfDiariesTest {
     }
   }
 
+  private static void promise4HowManyTheDiaryHas() {
+    CHECK.sentence(4, "A line more: how many the DIARY has");
+    DayDiary x = oneDiary(0);
+    x.diary(0, 1, 0, 0);
+    CHECK.due("the first", x.line(0, 5, 5, 1, 0, 0, 0), 1);
+    CHECK.due("refused", x.line(0, 5, 5, 1, 0, 0, 0), -1);
+    CHECK.due("the second, ahead of it", x.line(0, 0, 4, 1, 0, 0, 0), 2);
+    CHECK.due("the first of the other", x.line(1, 5, 5, 1, 0, 0, 0), 1);
+    CHECK.due("the third", x.line(0, 143, 143, 1, 0, 0, 0), 3);
+    CHECK.due("day(0, 0)", x.day(0, 0), 3);
+    CHECK.due("day(1, 0)", x.day(1, 0), 1);
+  }
+
   private static void fullOfLines(DayDiary x) {
     x.diary(0, 0, 0, 0);
     x.diary(0, 1, 0, 0);
@@ -334,6 +365,19 @@ public final class EdgesOfDiariesTest {
       }
     }
     CHECK.edges("look(0, 0, what)", 0, 5, what -> Check.answer(() -> x.look(0, 0, what)) != null);
+  }
+
+  private static void promise9ByTens() {
+    CHECK.sentence(9, "Of a line, by TENS");
+    DayDiary x = oneDiary(0);
+    x.line(0, 143, 143, 200, 0, 0, 0);
+    CHECK.due("alone", x.look(0, 0, 0), 143);
+    x.line(0, 0, 0, 1, 0, 0, 0);
+    CHECK.due("one came ahead of it", x.look(0, 0, 0), 0);
+    CHECK.due("it is the second now", x.look(0, 1, 0), 143);
+    x.line(0, 1, 142, 100, 0, 0, 0);
+    CHECK.due("one came between", x.look(0, 1, 2), 100);
+    CHECK.due("it is the last", x.look(0, 2, 2), 200);
   }
 
   private static void promise9NoneSuch() {

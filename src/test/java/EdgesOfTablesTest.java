@@ -9,6 +9,7 @@ public final class EdgesOfTablesTest {
 
   public static void main(String[] args) {
     promise14CodesAndSorts();
+    promise14ByTheTextInForce();
     promise14FirstDeeds();
     promise14SecondDeeds();
     promise14NoneBeingSecond();
@@ -76,6 +77,26 @@ public final class EdgesOfTablesTest {
     DayDiary y = new DayDiary();
     for (boolean weighted : new boolean[] {false, true}) {
       CHECK.edges("no diary: cell(49, sort)", 0, 3, sort -> y.cell(49, sort, weighted) == 0);
+    }
+  }
+
+  private static void promise14ByTheTextInForce() {
+    CHECK.sentence(14, "TABLES, by the text in force.");
+    DayDiary x = oneDiary();
+    x.line(0, 0, 0, 1, 1, 0, 0);
+    x.line(0, 2, 2, 1, 1, 0, 0);
+    dueCells(x, 0, 0, 0, 0, 0);
+    dueLeads(x, 0, 2);
+    for (int i = 0; i < 8; i++) {
+      CHECK.good(x, "code " + i + " when 1; mend 1;");
+    }
+    for (int i = -1; i < 8; i++) {
+      x.choose(i);
+      for (int code = 0; code < 8; code++) {
+        int lines = code == i ? 2 : 0;
+        dueCells(x, code, lines, lines, lines, lines / 2);
+        CHECK.due("text " + i + ": next", x.next(code, code), lines / 2);
+      }
     }
   }
 
@@ -355,6 +376,7 @@ public final class EdgesOfTablesTest {
       TWINS.refused("next(" + n[0] + ", " + n[1] + ")", Twins::madeWithTape,
           y -> y.next(n[0], n[1]), -1);
     }
+    TWINS.refused("next(0, 0)", Twins::madeWithTape, y -> y.next(0, 0), 3);
     DayDiary y = oneDiary();
     y.line(0, 0, 0, 1, 0, 0, 0);
     y.line(0, 1, 1, 1, 0, 0, 0);
@@ -442,6 +464,8 @@ public final class EdgesOfTablesTest {
       TWINS.refused("quarrels(" + n[0] + ", " + n[1] + ")", Twins::madeWithTape,
           y -> y.quarrels(n[0], n[1]), -1);
     }
+    // p 0 says so of q 1 in 0 .. 4, 16 .. 19 and 40 .. 49, where q 1 has lines that do not
+    TWINS.refused("quarrels(0, 0)", Twins::madeWithTape, y -> y.quarrels(0, 0), 5 + 4 + 10);
     for (int house = 0; house < 10; house++) {
       DayDiary y = new DayDiary();
       for (int day = 0; day < 7; day++) {

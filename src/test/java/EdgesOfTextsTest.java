@@ -10,6 +10,7 @@ public final class EdgesOfTextsTest {
     promise5UpTo24Signs();
     promise5TheHighestFirst();
     promise5OthersAreLeftOut();
+    promise5SignsOfTheTape();
     promise5BeyondEightHundred();
     promise5HowManyThereAre();
     promise6EightAtMost();
@@ -20,6 +21,7 @@ public final class EdgesOfTextsTest {
     promise6AsLongAsCanBe();
     promise6BlanksBetween();
     promise6WordsOfEightLetters();
+    promise6EachLetterCounts();
     promise6NumbersOfFourDigits();
     promise6ALetterRightBehind();
     promise6Signs();
@@ -30,6 +32,7 @@ public final class EdgesOfTextsTest {
     promise6NumbersOfWords();
     promise6NumberOfMend();
     promise6NumberAlone();
+    promise6NotAsTold();
     promise6PlaceOfAToken();
     promise6TheEndIsAToken();
     promise6TheFirstFromTheLeft();
@@ -103,6 +106,23 @@ public final class EdgesOfTextsTest {
         0x656eff2031013b00L), 14);
     CHECK.due("they part no token", x.text(), 0);
     CHECK.due("one rule", x.count(5), 1);
+  }
+
+  private static void promise5SignsOfTheTape() {
+    CHECK.sentence(5, "The TAPE has at most 800 signs, 10 and 32 .. 126");
+    for (char sign : new char[] {10, 32, 126}) {
+      DayDiary x = new DayDiary();
+      CHECK.due("none yet", x.count(3), 0);
+      String signs = String.valueOf(sign);
+      CHECK.due("800 signs", Check.feed(x, signs.repeat(800)), 800);
+      CHECK.due("one more", Check.feed(x, signs), 800);
+      CHECK.due("count(3)", x.count(3), 800);
+    }
+    for (char sign : new char[] {9, 11, 31, 127}) {
+      DayDiary x = new DayDiary();
+      CHECK.due("48 others", Check.feed(x, String.valueOf(sign).repeat(48)), 0);
+      CHECK.due("leave a text of none", x.text(), 0);
+    }
   }
 
   private static void promise5BeyondEightHundred() {
@@ -287,6 +307,27 @@ public final class EdgesOfTextsTest {
     CHECK.fault("codE 1 when 1;", 0, 1);
   }
 
+  /** A word that differs in a letter, or has one less or more, is another one. */
+  private static void promise6EachLetterCounts() {
+    CHECK.sentence(6, "code N when E ;");
+    String[][] known = {{"", "code", " 1 when 1;"}, {"code 1 ", "when", " 1;"}, {"", "mend", " 1;"},
+        {"code 1 when 1 ", "and", " 1;"}, {"code 1 when ", "word", " 1;"},
+        {"code 1 when ", "second", " 1;"}, {"code 1 when ", "next", " 1;"},
+        {"code 1 when ", "place", ";"}, {"code 1 when ", "with", ";"}, {"code 1 when ", "from", ";"},
+        {"code 1 when ", "long", ";"}, {"code 1 when ", "ahead", ";"}, {"code 1 when ", "age", ";"},
+        {"code 1 when ", "day", ";"}};
+    for (String[] k : known) {
+      goodAlone(k[0] + k[1] + k[2]);
+      for (int i = 0; i < k[1].length(); i++) {
+        String ahead = k[1].substring(0, i);
+        String behind = k[1].substring(i + 1);
+        CHECK.fault(k[0] + ahead + "z" + behind + k[2], k[0].length(), 1);
+        CHECK.fault(k[0] + ahead + behind + k[2], k[0].length(), 1);
+        CHECK.fault(k[0] + ahead + "a" + k[1].substring(i) + k[2], k[0].length(), 1);
+      }
+    }
+  }
+
   private static void promise6NumbersOfFourDigits() {
     CHECK.sentence(6, "NUMBERS (1 to 4 digits");
     for (String number : new String[] {"0", "9", "00", "99", "000", "999", "0000", "9999"}) {
@@ -443,6 +484,19 @@ public final class EdgesOfTextsTest {
   private static void promise6NumberAlone() {
     CHECK.sentence(6, "PART: N");
     CHECK.edges("code 1 when N;", 0, 9999, n -> n >= 0 && answer("code 1 when " + n + ";") == 0);
+  }
+
+  private static void promise6NotAsTold() {
+    CHECK.sentence(6, "4 a NUMBER that is not as told");
+    CHECK.fault("code 49 when 1; code 50 when 1;", 21, 4);
+    CHECK.fault("code 1 when word 200 and word 201;", 30, 4);
+    CHECK.fault("code 1 when (second 0);", 20, 4);
+    CHECK.fault("code 1 when 1 = next 9999;", 21, 4);
+    CHECK.fault("mend 144", 5, 4);
+    CHECK.fault("code 50", 5, 4);
+    CHECK.fault("code 1 when ((((word 0))));", 21, 4);
+    CHECK.fault("code 1 50 when 1;", 7, 1);
+    CHECK.fault("code 1 when place 9999;", 18, 1);
   }
 
   private static void promise6PlaceOfAToken() {

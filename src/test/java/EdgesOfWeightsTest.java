@@ -292,8 +292,11 @@ public final class EdgesOfWeightsTest {
     }
     DayDiary y = diaries(new int[] {0, 0});
     y.rounds(1);
-    y.diary(5, 5, 5, 0);
-    dueWeights(y, 1000, 1000000);
+    for (int d = 1; d < 40; d++) {
+      y.diary(d % 10, 1 + d / 10, 5, 0);
+      CHECK.due("one that comes later, weight(" + d + ")", y.weight(d), 1000000);
+      CHECK.due("the one that was there", y.weight(0), 1000);
+    }
   }
 
   private static void promise13NoneSuch() {
@@ -309,5 +312,6 @@ public final class EdgesOfWeightsTest {
     for (int d : new int[] {-1, 4, 40, MIN, MAX}) {
       TWINS.refused("weight(" + d + ")", Twins::madeWithTape, x -> x.weight(d), -1);
     }
+    TWINS.unchanged("weight(0)", Twins::madeWithTape, x -> x.weight(0));
   }
 }

@@ -9,12 +9,14 @@ public final class EdgesOfWordsTest {
     promise1NoDiaryNoText();
     promise1NothingIsShared();
     promise1FiveHundredTwelveCalls();
+    promise1TheConstant();
     promise2WordsAre1To200();
     promise2BelowALesserOne();
     promise2NoneIsAtFirst();
     promise2UnderItself();
     promise2UnderWhatItIsBelow();
     promise2UnderWhatThatIsUnder();
+    promise2PutElsewhere();
     promise2RefusedChangesNothing();
     CHECK.end("EdgesOfWordsTest");
   }
@@ -82,6 +84,12 @@ public final class EdgesOfWordsTest {
     }
     CHECK.due("call 511", x.lead(4, 0, 479), 1923);
     CHECK.due("call 512", x.cell(4, 0, true), 20 * 144 * 1000);
+  }
+
+  private static void promise1TheConstant() {
+    CHECK.sentence(1, "`NONE = -1`: None.");
+    CHECK.due("NONE", DayDiary.NONE, -1);
+    CHECK.due("what is answered of none", new DayDiary().weight(0), DayDiary.NONE);
   }
 
   private static void promise2WordsAre1To200() {
@@ -191,6 +199,31 @@ public final class EdgesOfWordsTest {
     dueUnder(x, 100, 1, 100);
     CHECK.due("100 is put elsewhere, 101 and above still stand under 1",
         x.choose(0) ? x.cell(1, 0, false) : -1, 200);
+  }
+
+  private static void promise2PutElsewhere() {
+    CHECK.sentence(2, "each may be put below a lesser one");
+    DayDiary x = new DayDiary();
+    x.diary(0, 0, 0, 0);
+    x.line(0, 0, 0, 200, 0, 0, 0);
+    x.line(0, 2, 2, 200, 0, 0, 0);
+    CHECK.good(x, "code 1 when word 1;");
+    CHECK.due("none at first", x.code(0, 0), -1);
+    CHECK.due("no cell", x.cell(1, 0, false), 0);
+    x.below(200, 199);
+    CHECK.due("below 199", x.code(0, 0), -1);
+    x.below(199, 1);
+    CHECK.due("which is put below 1", x.code(0, 0), 1);
+    CHECK.due("its cell", x.cell(1, 0, false), 2);
+    x.below(200, 2);
+    CHECK.due("put below 2", x.code(0, 0), -1);
+    CHECK.due("its ten", x.ten(0, 0), -1);
+    CHECK.due("lines without a code", x.day(0, 3), 2);
+    x.below(2, 1);
+    CHECK.due("which is put below 1", x.code(0, 0), 1);
+    CHECK.due("its lead", x.lead(1, 0, 1), 1);
+    x.below(200, 1);
+    CHECK.due("put below 1 itself", x.code(0, 0), 1);
   }
 
   private static void promise2RefusedChangesNothing() {

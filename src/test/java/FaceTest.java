@@ -22,9 +22,14 @@ public final class FaceTest {
     "int lead(int, int, int)", "int next(int, int)", "int quarrels(int, int)", "int day(int, int)",
     "int count(int)"};
   private static final String[] FORBIDDEN = {
-    "->", "::", "\\bcatch\\b", "\\btry\\b", "\\bfinally\\b", "\\bsynchronized\\b", "\\bassert\\b",
-    "\\bwhile\\b", "\\bdo\\b", "\\bpackage\\b", "\\bprotected\\b", "Exact\\b", "\\bdouble\\b",
-    "\\bfloat\\b", "\\bSystem\\.(?!arraycopy)", "\\bObject\\b", "[^\\x00-\\x7f]"};
+    "(?m)^(?!\\s*(case|default)\\b)[^\n]*->", "::", "\\bfinally\\b", "\\bsynchronized\\b",
+    "\\bassert\\b", "\\bpackage\\b", "\\bprotected\\b", "Exact\\b",
+    "\\bSystem\\.(?!arraycopy)", "\\bObject\\b", "[^\\x00-\\x7f]",
+    "\\bNullPointerException\\b", "\\bArrayIndexOutOfBoundsException\\b", "\\bClassCastException\\b",
+    "\\bNegativeArraySizeException\\b", "\\bArrayStoreException\\b", "\\bException\\b",
+    "\\bThrowable\\b", "\\bError\\b"};
+  private static final Pattern METHOD = Pattern.compile(
+      "[\\w>\\]]+ +\\w+\\([^()]*\\)\\s*(throws [\\w, ]+)?\\{");
 
   public static void main(String[] args) throws Exception {
     publicMembers();
@@ -118,12 +123,22 @@ public final class FaceTest {
       CHECK.due("import " + imports.group(1), imports.group(1)
           .matches("java\\.util\\.(ArrayList|List|Arrays|NoSuchElementException)"), true);
     }
-    int longest = 0;
-    int length = 0;
-    for (String line : source.split("\n")) {
-      length = line.isBlank() ? 0 : length + 1;
-      longest = Math.max(longest, length);
+    Matcher methods = METHOD.matcher(code);
+    while (methods.find()) {
+      CHECK.due(methods.group() + " has some sixty lines at most",
+          linesOfBlock(code, methods.end()) <= 65, true);
     }
-    CHECK.due("methods of sixty lines at most", longest <= 60, true);
+  }
+
+  /** From behind an opening bracket to the one that closes it. */
+  private static int linesOfBlock(String code, int start) {
+    int open = 1;
+    int lines = 1;
+    for (int i = start; i < code.length() && open > 0; i++) {
+      char sign = code.charAt(i);
+      open += sign == '{' ? 1 : sign == '}' ? -1 : 0;
+      lines += sign == '\n' ? 1 : 0;
+    }
+    return lines;
   }
 }
